@@ -12,7 +12,7 @@ public final class ActsTest {
         c.end();
     }
 
-    /** An ACT of the SAINT that has the number of its KIND, but for the first, and what runs. */
+    /** An ACT of SAINT 2, whose v is 5: what it answers, and what runs. */
     private static void act(int kind, int act, int x, int due, int... bodies) {
         int[][] all = {{kind, 7, 1}, {0, 1, 1}, {kind, 5, 1}};
         LoofahSaints y = Check.with(all);
