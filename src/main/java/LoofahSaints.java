@@ -970,8 +970,8 @@ public final class LoofahSaints {
         int ran = 0;
         private Saint saint = new Saint(0);
 
+        /** THE TRACE goes on: who asks for an ACT empties it, as it is empty by a refused one, too. */
         int run(Saint of, int act, int x) {
-            ran = 0;
             saint = of;
             return call(act, of.kind, x, 0);
         }

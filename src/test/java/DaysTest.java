@@ -8,6 +8,7 @@ public final class DaysTest {
         pass();
         aDay();
         on();
+        onOfAll();
         lateDays();
         c.end();
     }
@@ -135,17 +136,42 @@ public final class DaysTest {
         c.due("all in 60", x.on(60, 0), 5);
         c.due("on 0 in 2", x.on(2, 10), 0xFC0);
         c.due("on 1 in 2", x.on(2, 11), 0x01F);
+        c.due("on 3 in 2", x.on(2, 13), 0);
         c.due("wear 0 in 2", x.on(2, 20), 9);
         c.due("wear 0 in 60", x.on(60, 20), 99);
         c.due("wear 1 in 60", x.on(60, 21), 0);
         c.due("what 22", x.on(1, 22), -1);
         c.due("what 1", x.on(1, 1), -1);
+        c.due("what 9", x.on(1, 9), -1);
         c.due("what 14", x.on(1, 14), -1);
+        c.due("what 19", x.on(1, 19), -1);
         c.due("what -1", x.on(61, -1), -1);
         c.due("what min", x.on(1, Integer.MIN_VALUE), -1);
         c.due("n -1", x.on(-1, 0), -2);
         c.due("n 61", x.on(61, 10), -2);
         c.due("nothing changed", x.told(0) + x.told(10) + x.of(0, 3) + x.of(0, 4), 0xFFF);
+    }
+
+    /** Six SAINTS with all that is theirs go on as they are. */
+    private static void onOfAll() {
+        int[][] all = {{1, 9, 0xFFF}, {2, 0, 0xFFF}, {3, 0, 0}, {4, 5, 0xFFF}, {5, 0, 0xFFF}, {6, 0, 0}};
+        LoofahSaints x = Check.with(all, 0xFFF, 0xFFF, 0xFFF, 0xFFF);
+        x.row(5, 0, 2);
+        x.row(5, 1, 9);
+        for (int s = 0; s < 6; s++) {
+            x.set(s, 1, s);
+        }
+        int[][] left = {{0, 11, 9, 12, 11, 7}, {0, 10, 6, 4, 9, 0}, {0, 9, 3, 0, 8, 0}};
+        for (int s = 0; s < 6; s++) {
+            x.peg(s, 0);
+            for (int days = 1; days <= 3; days++) {
+                c.due("saint " + s + " in " + days, Integer.bitCount(x.on(days, 10)), left[days - 1][s]);
+                c.due("wear " + s + " in " + days, x.on(days, 20 + s), s + 3 + 3 * days);
+                c.due("mean in " + days, x.mean(days, 0) * 6 / x.mean(days, 1), 15 + 3 + 3 * days);
+            }
+            x.peg(s, -1);
+        }
+        c.due("now", x.on(0, 0), 48);
     }
 
     private static void lateDays() {

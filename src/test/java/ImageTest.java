@@ -7,6 +7,7 @@ public final class ImageTest {
         judgeRefuses();
         image();
         undoSaints();
+        undoTold();
         undoOrder();
         notOfTheImage();
         c.end();
@@ -162,6 +163,34 @@ public final class ImageTest {
         c.due("three", y.undo(), 3);
         c.due("the fourth again", y.saint(2, 0, 1), 3);
         c.due("its kind", y.of(3, 0), 2);
+    }
+
+    private static void undoTold() {
+        LoofahSaints x = Check.with(new int[][] {{0, 0, 1}, {0, 0, 2}, {0, 0, 4}}, 7, 7, 7, 7);
+        for (int i = 0; i < 5; i++) {
+            x.see(i % 3, i % 4, 1 << i % 3);
+        }
+        for (int i = 0; i < 8; i++) {
+            x.plan(1, i % 3 * 10 + i % 4);
+            x.book(i % 4, i < 7 ? 7 : 0);
+        }
+        x.image();
+        x.see(-1, 0, 0);
+        x.plan(-1, 0);
+        x.book(-1, 0);
+        for (int i = 0; i < 8; i++) {
+            x.see(2 - i % 3, 3, 0);
+            x.plan(3, 0);
+            x.book(1, 1);
+        }
+        x.undo();
+        for (int s = 0; s < 3; s++) {
+            c.due("seen", x.holed(s, 0), 512);
+            c.due("seen", x.holed(s, 1), 1 << s);
+        }
+        c.due("plan", x.ends(0), 12 - 8);
+        c.due("plan", x.ends(1), 12 + 12 + 9);
+        c.due("book", x.looked(), 7);
     }
 
     private static void undoOrder() {

@@ -171,6 +171,14 @@ public final class OrdersTest {
             }
         }
         holds("v=07", true);
+        LoofahSaints y = Check.with(new int[][] {{0, 0, 0}});
+        Check.order(y, "scrub 20 w=4;scrub 40 w>8;soft 1 w<1");
+        int[] wears = {0, 9, 10, 39, 40, 49, 50, 89, 90, 99};
+        int[] sums = {2, 2, 3, 3, 23, 23, 3, 3, 43, 43};
+        for (int i = 0; i < wears.length; i++) {
+            y.set(0, 1, wears[i]);
+            c.due("wear " + wears[i], y.of(0, 6), sums[i]);
+        }
         LoofahSaints x = Check.with(new int[][] {{0, 0, 0}});
         Check.order(x, "scrub 20 t=0&d=0");
         c.due("dry on day 0", x.of(0, 6), 23);
@@ -220,5 +228,10 @@ public final class OrdersTest {
         c.due("below", x.of(1, 6), 3 - 198);
         Check.order(x, "scrub 5 p=4");
         c.due("the newest alone", x.of(0, 6), 3);
+        c.due("a fault", Check.order(x, "wear 9;scrub 5 p=0;scrub 7 p=0&?"), -41);
+        c.due("lets the one hold", x.of(0, 6), 3);
+        c.due("and the next", Check.order(x, "scrub 1 p=0"), 3);
+        c.due("has nothing of it", x.of(0, 6), 4);
+        c.due("has nothing of it", x.told(1), 6);
     }
 }

@@ -6,6 +6,7 @@ public final class PlansTest {
     public static void main(String[] args) {
         plan();
         ends();
+        endsOfAny();
         endsByDays();
         book();
         looked();
@@ -66,6 +67,27 @@ public final class PlansTest {
         x.set(0, 1, 99);
         c.due("a thread is not used till it is new", x.ends(0), 18);
         c.due("wear", x.ends(1), 6 + 6);
+    }
+
+    private static void endsOfAny() {
+        int[][] all = {{0, 0, 1}, {0, 0, 3}, {0, 0, 7}, {1, 1, 15}, {1, 2, 31}, {1, 3, 63}};
+        for (int s = 0; s < 6; s++) {
+            for (int n = 0; n < 4; n++) {
+                LoofahSaints x = Check.with(all);
+                x.novice(n, 0, 0xFFF);
+                for (int i = 0; i < 6; i++) {
+                    x.set(i, 1, 1 << i);
+                }
+                c.due("use", x.plan(1, 10 * s + n), 1);
+                c.due("saint " + s + " on " + n, x.ends(0), 11 - s);
+                c.due("wear of all", x.ends(1), 63 + 6);
+                x.plan(2, s);
+                c.due("wear of all but " + s, x.ends(1), 63 - (1 << s));
+            }
+        }
+        c.due("novice 9", Check.with(all).plan(1, 49), -1);
+        c.due("saint 6", Check.with(all).plan(1, 60), -1);
+        c.due("the last", Check.with(all).plan(1, 53), 1);
     }
 
     private static void endsByDays() {

@@ -13,6 +13,7 @@ public final class SaintsTest {
         use();
         row();
         gritByKind();
+        gritByDay();
         takesLeast();
         lasts();
         c.end();
@@ -201,6 +202,7 @@ public final class SaintsTest {
         c.due("wet pith", x.of(3, 6), 12);
         x.pass(1);
         c.due("dry pith", x.of(3, 6), 0);
+        c.due("told on day 1", x.of(5, 6), 3);
         c.due("abbot on day 1", x.of(1, 6), 1);
         c.due("rattle on day 1", x.of(4, 6), 2);
         Check.order(x, "soft 10 d<9");
@@ -214,6 +216,14 @@ public final class SaintsTest {
         Check.order(x, "soft 8 p=1;soft 4 p=4");
         c.due("half of -5", x.of(1, 6), -2);
         c.due("half of -1 and 1", x.of(4, 6), 1);
+    }
+
+    private static void gritByDay() {
+        LoofahSaints x = Check.with(new int[][] {{5, 0, 0}});
+        for (int day = 0; day < 8; day++) {
+            c.due("rattle on day " + day, x.of(0, 6), 1 + day % 2);
+            x.pass(1);
+        }
     }
 
     private static void takesLeast() {

@@ -157,6 +157,12 @@ public final class SeenTest {
         c.due("novice -1", x.odds(0, -1, 0), no);
         c.due("part 2", x.odds(0, 0, 2), no);
         c.due("part -1", x.odds(0, 0, -1), no);
+        LoofahSaints z = Check.with(new int[][] {{0, 0, 1}}, 3);
+        fraction(z, 0, 0, 1, 1);
+        fraction(z, 1, 0, 0, 1);
+        z.set(0, 1, 7);
+        c.due("mean of one", z.mean(0, 0), 7);
+        c.due("mean of one", z.mean(0, 1), 1);
         LoofahSaints y = Check.with(new int[][] {{0, 0, 8}, {0, 0, 1}, {0, 0, 1}, {0, 0, 1}, {0, 0, 8}, {0, 0, 8}}, 8);
         y.set(0, 1, 99);
         fraction(y, 3, 0, 1, 3);

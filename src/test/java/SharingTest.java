@@ -10,6 +10,9 @@ public final class SharingTest {
         dear();
         scrubbed();
         scrubbedOfKinds();
+        dearOfMany();
+        scrubbedByLast();
+        fewerThanBefore();
         c.end();
     }
 
@@ -96,6 +99,58 @@ public final class SharingTest {
         c.due("7", w.shared(0), 7);
         c.due("dear", w.told(4), 1);
         c.due("without it", w.told(5), 4);
+    }
+
+    private static void dearOfMany() {
+        int[][] all = {{0, 0, 0x003}, {0, 0, 0x008}, {0, 0, 0x070}, {0, 0, 0x010}, {0, 0, 0}, {0, 0, 0x100}};
+        LoofahSaints x = Check.with(all, 0x003, 0x008, 0x070, 0x100);
+        c.due("shared", x.shared(0), 7);
+        c.due("0 and 2 alike", x.told(4), 0);
+        c.due("5", x.told(5), 5);
+        x.novice(0, 0, 0x001);
+        c.due("1 is no dearer than 0, 2 is", x.told(4), 2);
+        c.due("4", x.told(5), 4);
+        x.set(3, 1, 99);
+        c.due("now 2", x.told(4), 2);
+        c.due("3", x.told(5), 3);
+        x.set(2, 1, 99);
+        c.due("the first of those by one", x.told(4), 0);
+        c.due("2", x.told(5), 2);
+        x.set(0, 1, 99);
+        x.set(1, 1, 99);
+        x.set(4, 1, 99);
+        c.due("the last alone", x.told(4), 5);
+        c.due("none without", x.told(5), 0);
+        c.due("the last", x.shared(15), 3);
+    }
+
+    private static void scrubbedByLast() {
+        int[][] all = {{0, 0, 1}, {0, 0, 2}, {0, 0, 4}, {0, 0, 0x038}, {0, 0, 0x1C0}, {0, 0, 0xE00}};
+        LoofahSaints x = Check.with(all, 0, 0, 0, 0xFFF);
+        c.due("3 by 3", x.scrubbed(3, 3, -1), 3);
+        for (int k = 0; k < 3; k++) {
+            c.due("the last ones", x.scrubbed(3, 3, k), 3 + k);
+        }
+        c.due("2", x.scrubbed(3, 2, -1), 6);
+        c.due("1", x.scrubbed(3, 1, 0), 3);
+    }
+
+    private static void fewerThanBefore() {
+        LoofahSaints x = Check.with(new int[][] {{0, 0, 0x001}}, 0x00F, 0xF00);
+        x.image();
+        x.saint(0, 0, 0xFFF);
+        x.set(1, 1, 50);
+        c.due("two", x.shared(0), 4);
+        c.due("two", x.scrubbed(0, 2, -1), 0);
+        c.due("two", x.mean(0, 0), 25);
+        x.undo();
+        c.due("one", x.shared(0), 1);
+        c.due("one", x.scrubbed(0, 1, -1), 3);
+        c.due("one", x.scrubbed(0, 1, 0), 0);
+        c.due("one", x.mean(0, 0), 0);
+        c.due("one", x.ends(1), 0);
+        c.due("dear", x.told(4), 0);
+        c.due("dear", x.told(5), 0);
     }
 
     private static void scrubbed() {

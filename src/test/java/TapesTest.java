@@ -34,10 +34,12 @@ public final class TapesTest {
         c.due("a row of none", x.tape(0, 3, 0), 1);
         c.due("no place, but there", x.item(0, 0, 1), -13);
         x.tape(0, 3, 3);
+        x.item(0, 0, 5);
         x.item(0, 1, 5);
         c.due("refused", x.tape(0, 3, -1), -14);
         c.due("stays", x.read(0, 1), 5);
         x.tape(0, 2, 3);
+        c.due("all 0", x.read(0, 0), 0);
         c.due("all 0", x.read(0, 1), 0);
         c.due("nothing", x.tape(0, -1, MIN), 1);
         c.due("nothing there", x.read(0, 0), NO);
