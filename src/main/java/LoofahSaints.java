@@ -488,10 +488,10 @@ public final class LoofahSaints {
         }
 
         int lasts(int hard) {
-            int worn = wear, times = 0;
+            int then = wear, times = 0;
             boolean soaked = wet;
-            while (times < LASTS && worn < THREAD) {
-                worn = worn(worn, soaked, hard);
+            while (times < LASTS && then < THREAD) {
+                then = worn(then, soaked, hard);
                 soaked = true;
                 times++;
             }

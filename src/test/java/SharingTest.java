@@ -139,6 +139,11 @@ public final class SharingTest {
         LoofahSaints x = Check.with(new int[][] {{0, 0, 0x001}}, 0x00F, 0xF00);
         x.image();
         x.saint(0, 0, 0xFFF);
+        x.set(1, 1, 99);
+        c.due("two", x.told(3), 2);
+        x.undo();
+        c.due("one", x.told(3), 0);
+        x.saint(0, 0, 0xFFF);
         x.set(1, 1, 50);
         c.due("two", x.shared(0), 4);
         c.due("two", x.scrubbed(0, 2, -1), 0);
