@@ -2,15 +2,33 @@
 final class Check {
     private int wrong = 0;
     private int asked = 0;
+    private String sentence = "";
+    private int askedOfSentence = 1;
+
+    /** What comes until the next such call is the test of this sentence of the document. */
+    void says(String words) {
+        endSentence();
+        sentence = words;
+        askedOfSentence = 0;
+    }
+
+    private void endSentence() {
+        if (askedOfSentence > 0) return;
+        wrong++;
+        System.out.println("[" + sentence + "] is not tested");
+    }
 
     void due(String call, long got, long want) {
         asked++;
+        askedOfSentence++;
         if (got == want) return;
         wrong++;
-        System.out.println(call + " answered " + got + ", due is " + want);
+        String of = sentence.isEmpty() ? "" : "[" + sentence + "] ";
+        System.out.println(of + call + " answered " + got + ", due is " + want);
     }
 
     void end() {
+        endSentence();
         System.out.println(asked + " answers, " + wrong + " wrong");
         if (wrong != 0 || asked == 0) System.exit(1);
     }
