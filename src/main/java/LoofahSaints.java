@@ -875,24 +875,24 @@ public final class LoofahSaints {
                 }
             }
             most = -1;
-            seek(0, 0, 0);
+            seek(this, 0, 0, 0);
         }
 
-        private void seek(int s, int given, int sum) {
-            if (s >= size || s >= SAINTS) {
-                if (sum <= most) return;
-                most = sum;
-                System.arraycopy(row, 0, best, 0, SAINTS);
+        private static void seek(Sharing of, int s, int given, int sum) {
+            if (s >= of.size || s >= SAINTS) {
+                if (sum <= of.most) return;
+                of.most = sum;
+                System.arraycopy(of.row, 0, of.best, 0, SAINTS);
                 return;
             }
             for (int n = 0; n < NOVICES; n++) {
-                int more = takes[s * NOVICES + n];
+                int more = of.takes[s * NOVICES + n];
                 if (more == NOT_GIVEN || (given >> n & 1) != 0) continue;
-                row[s] = n;
-                seek(s + 1, given | 1 << n, sum + more);
+                of.row[s] = n;
+                seek(of, s + 1, given | 1 << n, sum + more);
             }
-            row[s] = NO_NOVICE;
-            seek(s + 1, given, sum);
+            of.row[s] = NO_NOVICE;
+            seek(of, s + 1, given, sum);
         }
 
         int givenTo(int saint) {
@@ -934,20 +934,20 @@ public final class LoofahSaints {
             }
             length = Math.min(n, SCRUBBERS);
             least = DOCTRINES + 1;
-            seek(house, 0, 0, house.on[novice]);
+            seek(this, house, 0, 0, house.on[novice]);
         }
 
-        private void seek(House house, int k, int used, int on) {
-            if (k >= length) {
-                if (Integer.bitCount(on) >= least) return;
-                least = Integer.bitCount(on);
-                System.arraycopy(row, 0, best, 0, SCRUBBERS);
+        private static void seek(Scrubbing of, House house, int k, int used, int on) {
+            if (k >= of.length || k >= SCRUBBERS) {
+                if (Integer.bitCount(on) >= of.least) return;
+                of.least = Integer.bitCount(on);
+                System.arraycopy(of.row, 0, of.best, 0, SCRUBBERS);
                 return;
             }
             for (int s = 0; s < house.size; s++) {
                 if ((used >> s & 1) != 0) continue;
-                row[k] = s;
-                seek(house, k + 1, used | 1 << s, on & ~house.saints[s].takes(on, grits[s]));
+                of.row[k] = s;
+                seek(of, house, k + 1, used | 1 << s, on & ~house.saints[s].takes(on, of.grits[s]));
             }
         }
     }

@@ -27,7 +27,9 @@ public final class FaceTest {
         constants();
         methods();
         members();
-        source(args.length > 0 ? args[0] : "src/main/java/LoofahSaints.java");
+        String path = args.length > 0 ? args[0] : "src/main/java/LoofahSaints.java";
+        source(path);
+        recursion(path);
         c.end();
     }
 
@@ -109,6 +111,39 @@ public final class FaceTest {
             if (lines[i].matches(" {4}( {4})?\\w[^=;]*\\(.*\\) \\{")) from = i;
             if (lines[i].matches(" {4}( {4})?\\}")) due("the method at line " + (from + 1) + " is short", i - from < 60);
             if (lines[i].matches(" {4}\\}")) from = i;
+        }
+    }
+
+    /** A method that calls itself is private, and static, unless it and another one call one another. */
+    private static void recursion(String path) throws IOException {
+        String[] lines = Files.readString(Path.of(path)).split("\n");
+        TreeSet<String> ways = new TreeSet<>();
+        TreeSet<String> calling = new TreeSet<>();
+        String header = "", name = "", within = "";
+        for (String line : lines) {
+            if (line.matches(" {4}private static final class .*")) within = line.trim() + " ";
+            if (line.matches(" {4}( {4})?\\w[^=;]*\\(.*\\) \\{")) {
+                header = line.trim();
+                name = header.replaceAll("\\(.*", "").replaceAll(".* ", "");
+                continue;
+            }
+            java.util.regex.Matcher m = java.util.regex.Pattern.compile("(?<![\\w.])(\\w+)\\(").matcher(line);
+            while (m.find()) {
+                ways.add(within + name + " calls " + m.group(1));
+                if (m.group(1).equals(name)) calling.add(within + "/" + header + "/" + name);
+            }
+        }
+        due("some call themselves", calling.size() > 0);
+        for (String of : calling) {
+            String[] part = of.split("/");
+            boolean mutual = false;
+            for (String way : ways) {
+                String other = way.replaceAll(".* calls ", "");
+                mutual |= way.startsWith(part[0] + part[2] + " calls ") && !other.equals(part[2])
+                    && ways.contains(part[0] + other + " calls " + part[2]);
+            }
+            due(part[1] + " is private", part[1].startsWith("private "));
+            due(part[1] + " calls itself and is static", mutual || part[1].startsWith("private static "));
         }
     }
 }
