@@ -14,8 +14,7 @@ public final class ReadmeTest {
         String readme = Files.readString(Path.of("README.md"));
         program(readme);
         calls(readme);
-        for (String path : new String[] {"src/main/java/LoofahSaints.java", "src/test/java", ".ci/run",
-            "../shared/DOC.md", "../shared/LANGUAGE.md", "../shared/tests"}) {
+        for (String path : new String[] {"src/main/java/LoofahSaints.java", "src/test/java", ".ci/run", "../shared/tests"}) {
             due(path + " is named", readme.contains(path));
             due(path + " is there", Files.exists(Path.of(path)));
         }
